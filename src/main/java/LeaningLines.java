@@ -381,7 +381,11 @@ public final class LeaningLines {
         if (reader.kind == 'w') {
             return carryOutPass();
         }
-        return carryOutShoot();
+        int error = errorOfShoot();
+        if (error == FINE) {
+            camera.takePicture(scene);
+        }
+        return error;
     }
 
     private int carryOutThing() {
@@ -418,14 +422,6 @@ public final class LeaningLines {
         int error = errorOfPass(ticks);
         if (error == FINE) {
             scene.time += ticks;
-        }
-        return error;
-    }
-
-    private int carryOutShoot() {
-        int error = errorOfShoot();
-        if (error == FINE) {
-            camera.takePicture(scene);
         }
         return error;
     }
@@ -773,7 +769,7 @@ public final class LeaningLines {
         /** The caller has looked whether there is room for so many more. */
         void append(long characters, int many) {
             for (int one = many - 1; one >= 0; one--) {
-                text[length] = (char) (characters >>> 8 * one & 255);
+                text[length] = (char) ((characters >>> (8 * one)) & 255);
                 length++;
             }
         }

@@ -577,13 +577,14 @@ public final class PromisesTest {
         due("columns of 1", x.ofLine(1, 0), 0);
         due("sum of 1", x.ofLine(1, 1), 0);
         due("leftmost of 1", x.ofLine(1, 2), NONE);
-        x.undo();
-        x.undo();
-        x.ride(0, NONE);
-        x.pass(1);
-        x.shoot();
-        due("leftmost of 15", x.ofLine(15, 2), 3);
-        due("leftmost of 0", x.ofLine(0, 2), NONE);
+        for (int column = 0; column < 24; column++) {
+            x = fresh(12);
+            x.thing(column % 16, column, 1, 1, 1);
+            x.shoot();
+            due("columns", x.ofLine(column % 16, 0), 1 << column);
+            due("sum", x.ofLine(column % 16, 1), 4);
+            due("leftmost", x.ofLine(column % 16, 2), column);
+        }
     }
 
     private static void count() {
@@ -632,6 +633,13 @@ public final class PromisesTest {
         due("lower half is dark", x.count(3), 0xFF00);
         due("one band", x.count(5), 1);
         due("brightest", x.count(4), 8);
+        for (int corner = 0; corner < 4; corner++) {
+            x = fresh(13);
+            x.thing(corner % 2 * 15, corner / 2 * 23, 1, 1, 9);
+            x.thing(7, 7, 1, 1, 8);
+            x.shoot();
+            due("brightest in a corner", x.count(4), 36);
+        }
     }
 
     private static void seen() {
@@ -749,6 +757,11 @@ public final class PromisesTest {
         due("slower", x.bent(), 8);
         x.set(LINE, 0);
         due("all lines at once", x.bent(), 0);
+        x = fresh(16);
+        x.thing(14, 3, 16, 2, 9);
+        x.speed(0, 5);
+        // in the 4 ticks in which they are exposed, 0 and 28 or 30 ticks later: from 3 and 4, and 17 and 18
+        due("nothing beyond the picture", x.bent(), 2 * (3 + 3));
         x = fresh(16);
         x.thing(0, 0, 16, 24, 1);
         x.set(EXPOSE, 1);
@@ -1227,5 +1240,36 @@ public final class PromisesTest {
         due("undo of restore", x.undo(), 4);
         due("the time of before", x.count(0), 44);
         due("restore(0)", x.restore(0), NOT_POSSIBLE);
+        restoredThings();
+    }
+
+    /** Numbers are given again: a thing that is back is the one that was saved, or was there, and no other. */
+    private static void restoredThings() {
+        LeaningLines x = fresh(25);
+        int[] first = {3, 1004, 5, 6, 7, 120, NONE, 1020};
+        int[] second = {9, 1010, 11, 12, 8, 70, NONE, 970};
+        x.thing(3, 4, 5, 6, 7);
+        x.speed(0, 20);
+        x.save(0);
+        x.undo();
+        x.undo();
+        due("another thing 0", x.thing(9, 10, 11, 12, 8), 0);
+        x.speed(0, -30);
+        x.save(1);
+        for (int time = 0; time < 3; time++) {
+            due("restore(0)", x.restore(0), 1);
+            for (int what = 0; what < 8; what++) {
+                due("of(0, " + what + ")", x.of(0, what), first[what]);
+            }
+            due("undo of restore(0)", x.undo(), 2);
+            for (int what = 0; what < 8; what++) {
+                due("of(0, " + what + ")", x.of(0, what), second[what]);
+            }
+        }
+        x.restore(0);
+        x.restore(1);
+        due("restored the other", x.of(0, 0), 9);
+        x.undo();
+        due("undone", x.of(0, 0), 3);
     }
 }
