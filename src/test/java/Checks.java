@@ -29,6 +29,10 @@ final class Checks {
         return wrong;
     }
 
+    int made() {
+        return right + wrong;
+    }
+
     /** Ends the program: with exit code 1 if one check failed, or if none was made. */
     void end() {
         System.out.println(name + ": " + right + " checks hold, " + wrong + " do not");
