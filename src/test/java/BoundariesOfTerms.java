@@ -9,6 +9,11 @@ final class BoundariesOfTerms extends Boundaries {
     @Override
     void all() {
         section("What it is");
+        test("Leaning pictures of things that move while lines are read one by one: things of brightnesses that stand, move, "
+                + "or ride on others, a camera that exposes its lines one behind the other, a light that flickers, flashes, "
+                + "pictures of lines and columns, lines that are joined in sums, how far a thing leans, bands of light and "
+                + "dark, pixels that a camera which exposes all lines at once would tell otherwise, the speed of a line, when a "
+                + "flash is in all lines, scenes that are read from texts, undo, and saved states.", this::allOfIt);
         test("An object is used for at most 512 calls after it has been made; what later calls answer is free.",
                 this::the512thCall);
         section("Terms");
@@ -73,6 +78,44 @@ final class BoundariesOfTerms extends Boundaries {
                 + "there are such.", this::joinedLines);
         test("A flash is set for a time and burns for some ticks from then on;", this::burningTicks);
         test("there is one flash at most, the one that was set last.", this::oneFlash);
+    }
+
+    /** Each line begins a tick after the one above it, and thing 0 goes a column in a tick: so they lean by a column a line. */
+    private void allOfIt(Run x) {
+        x.make("set(0, 1)", "set(1, 1)", "thing(0, 4, 16, 2, 5)", "thing(2, 0, 3, 3, 9)", "speed(0, 10)", "ride(1, 0)");
+        x.due("shoot()", 16 * 2 * 5 + 3 * 3 * 9);
+        x.due("count(0)", 16);
+        x.due("ofLine(0, 0)", 0b11 << 4);
+        x.due("ofLine(4, 0)", 0b111 << 4 | 0b11 << 8);
+        x.due("ofLine(15, 0)", 0b11 << 19);
+        x.due("leans(0)", 1000 + 15);
+        x.due("leans(1)", 1000 + 2);
+        x.due("set(3, 4)", 1);
+        x.due("joined(0, 5)", 5 + 5 + 0 + 9);
+        x.due("of(0, 1)", 1020);
+        // by lines: 0, 2, 7, 7, 6, then 2 in each: thing 0 is at 20 and goes out of the picture, thing 1 is at 16
+        x.due("bent()", 2 + 7 + 7 + 6 + 11 * 2);
+        x.due("save(0)", 2);
+        x.due("flash(3, 2)", 19);
+        x.due("flashed()", 1 << 3 | 1 << 4);
+        x.due("seen(2, 20, 3)", 3 * 9);
+        x.due("bestFlash(20, 1)", 16);
+        x.due("bestFlash(20, 0)", 0);
+        x.due("set(2, 2)", 0);
+        x.due("speed(0, 0)", 110);
+        // lines begin at 16, 17, ..: every other one is dark, but for that in which the flash burns at 19
+        x.due("shoot()", 8 * 2 * 5 + 2 * 3 * 9 + 2 * (2 * 5 + 3 * 9) + 3 * (2 * 5 + 3 * 9));
+        x.due("count(3)", 0b1010101010100010);
+        x.due("count(5)", 13);
+        x.text("w4;p");
+        x.due("carryOut()", 2);
+        x.due("count(0)", 16 + 16 + 4 + 16);
+        x.due("undo()", 5);
+        x.due("count(0)", 16 + 16);
+        x.due("restore(0)", 2);
+        x.due("count(0)", 16);
+        x.due("of(0, 5)", 110);
+        x.due("count(3)", 0);
     }
 
     private void the512thCall(Run x) {

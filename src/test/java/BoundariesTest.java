@@ -1,6 +1,6 @@
 import java.io.IOException;
 
-/** Each sentence of the document, from the terms to the last promise, with its boundaries. */
+/** Each sentence of the document, from the first one to the last promise, with its boundaries. */
 public final class BoundariesTest {
     private static final Checks CHECKS = new Checks("BoundariesTest");
 

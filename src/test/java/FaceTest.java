@@ -1,84 +1,112 @@
+import java.io.IOException;
 import java.lang.reflect.Constructor;
+import java.lang.reflect.Executable;
 import java.lang.reflect.Field;
+import java.lang.reflect.Member;
 import java.lang.reflect.Method;
 import java.lang.reflect.Modifier;
+import java.nio.file.Files;
+import java.nio.file.Path;
 import java.util.Arrays;
 import java.util.Set;
 import java.util.TreeSet;
+import java.util.regex.Matcher;
+import java.util.regex.Pattern;
+import java.util.stream.Collectors;
 
-/** The public face is that of the document, and nothing else can be seen from outside (rule 1 of LANGUAGE.md). */
+/** The public face is what the document writes, and nothing else can be seen from outside (rule 1 of LANGUAGE.md). */
 public final class FaceTest {
-    private static final String[] METHODS = {"set(int, int)", "thing(int, int, int, int, int)", "speed(int, int)",
-        "ride(int, int)", "flash(int, int)", "pass(int)", "shoot()", "of(int, int)", "pixel(int, int)", "joined(int, int)",
-        "ofLine(int, int)", "count(int)", "seen(int, int, int)", "leans(int)", "bent()", "flashed()", "bestFlash(int, int)",
-        "put(long)", "wipe()", "fault()", "carryOut()", "undo()", "save(int)", "restore(int)"};
-    private static final String[] CONSTANTS = {"NO_SUCH", "BAD_VALUE", "BAD_TEXT", "TOO_MANY", "NOT_POSSIBLE", "NONE", "LINE",
-        "EXPOSE", "FLICKER", "JOIN"};
+    private static final Path DOCUMENT = Path.of("../shared/DOC.md");
+    private static final int MOST_CLASSES = 12, MOST_FIELDS = 20, MOST_PARAMETERS = 7;
 
     private static final Checks CHECKS = new Checks("FaceTest");
 
-    public static void main(String[] args) {
+    public static void main(String[] args) throws IOException {
         Class<?> face = LeaningLines.class;
-        CHECKS.check(face.getModifiers() == (Modifier.PUBLIC | Modifier.FINAL), "the class is not public and final");
-        methods(face);
-        constants(face);
-        constructors(face);
+        Set<String> wanted = wanted(Files.readString(DOCUMENT));
+        Set<String> there = there(face);
+        CHECKS.check(wanted.size() == 1 + 10 + 1 + 24, "the document writes " + wanted);
+        for (String one : wanted) {
+            CHECKS.check(there.contains(one), "there is no " + one);
+        }
+        for (String one : there) {
+            CHECKS.check(wanted.contains(one), one + " is not of the face");
+        }
         insides(face);
         CHECKS.end();
     }
 
-    private static void same(String what, Set<String> there, String... wanted) {
-        CHECKS.check(there.equals(new TreeSet<>(Arrays.asList(wanted))), what + " are " + there);
+    /** What the document writes as the face, a line a member, without the names of the parameters. */
+    private static Set<String> wanted(String document) {
+        Matcher block = Pattern.compile("(?s)## The public face\\s+```java\\n(.*?)```").matcher(document);
+        CHECKS.check(block.find(), "the document has no face");
+        Set<String> wanted = new TreeSet<>();
+        for (String line : block.group(1).split("\n")) {
+            String member = line.strip().replaceAll("[;{]$", "").strip();
+            if (member.contains("=")) {
+                for (String one : member.replaceAll(".* int ", "").split(", ")) {
+                    wanted.add("public static final int " + one);
+                }
+            } else if (!member.equals("}")) {
+                wanted.add(member.replaceAll("(int|long) \\w+(?=[,)])", "$1"));
+            }
+        }
+        return wanted;
     }
 
-    private static void methods(Class<?> face) {
+    /** What can be seen of the class from outside, written in the same way. */
+    private static Set<String> there(Class<?> face) {
         Set<String> there = new TreeSet<>();
+        there.add(Modifier.toString(face.getModifiers()) + " class " + face.getName());
+        for (Constructor<?> one : face.getDeclaredConstructors()) {
+            add(there, one, one.getName() + types(one));
+        }
         for (Method one : face.getDeclaredMethods()) {
-            if (Modifier.isPrivate(one.getModifiers())) {
-                continue;
-            }
-            CHECKS.check(one.getModifiers() == Modifier.PUBLIC && one.getReturnType() == int.class, one + " is not of the face");
-            String types = Arrays.toString(one.getParameterTypes());
-            there.add(one.getName() + "(" + types.substring(1, types.length() - 1) + ")");
+            add(there, one, one.getReturnType() + " " + one.getName() + types(one));
         }
-        same("the methods", there, METHODS);
-    }
-
-    private static void constants(Class<?> face) {
-        Set<String> there = new TreeSet<>();
         for (Field one : face.getDeclaredFields()) {
-            if (Modifier.isPrivate(one.getModifiers())) {
-                continue;
-            }
-            int constant = Modifier.PUBLIC | Modifier.STATIC | Modifier.FINAL;
-            CHECKS.check(one.getModifiers() == constant && one.getType() == int.class, one + " is not of the face");
-            there.add(one.getName());
+            add(there, one, one.getType() + " " + one.getName() + " = " + valueOf(one));
         }
-        same("the constants", there, CONSTANTS);
+        return there;
     }
 
-    private static void constructors(Class<?> face) {
-        Constructor<?>[] there = face.getDeclaredConstructors();
-        CHECKS.check(there.length == 1 && there[0].getModifiers() == Modifier.PUBLIC && there[0].getParameterCount() == 0,
-                "the constructors are " + Arrays.toString(there));
+    private static void add(Set<String> there, Member member, String told) {
+        if (!Modifier.isPrivate(member.getModifiers())) {
+            there.add((Modifier.toString(member.getModifiers()) + " " + told).strip());
+        }
+    }
+
+    private static String types(Executable executable) {
+        return Arrays.stream(executable.getParameterTypes()).map(Class::getName).collect(Collectors.joining(", ", "(", ")"));
+    }
+
+    private static String valueOf(Field field) {
+        try {
+            return Modifier.isPublic(field.getModifiers()) && Modifier.isStatic(field.getModifiers())
+                    ? String.valueOf(field.get(null)) : "";
+        } catch (IllegalAccessException thrown) {
+            throw new IllegalStateException(thrown);
+        }
     }
 
     private static void insides(Class<?> face) {
         Set<String> names = new TreeSet<>();
-        for (String one : METHODS) {
-            names.add(one.substring(0, one.indexOf('(')));
+        for (Method one : face.getMethods()) {
+            if (one.getDeclaringClass() == face) {
+                names.add(one.getName());
+            }
         }
         Class<?>[] insides = face.getDeclaredClasses();
-        CHECKS.check(insides.length <= 12, "there are " + insides.length + " classes inside");
+        CHECKS.check(insides.length <= MOST_CLASSES, "there are " + insides.length + " classes inside");
         for (Class<?> inside : insides) {
             int modifiers = inside.getModifiers();
             CHECKS.check(Modifier.isStatic(modifiers) && !Modifier.isPublic(modifiers) && !Modifier.isProtected(modifiers),
                     inside + " is not static, or can be seen from outside");
             for (Method one : inside.getDeclaredMethods()) {
                 CHECKS.check(!names.contains(one.getName()), one + " bears a name of the face");
-                CHECKS.check(one.getParameterCount() <= 7, one + " takes too many parameters");
+                CHECKS.check(one.getParameterCount() <= MOST_PARAMETERS, one + " takes too many parameters");
             }
-            CHECKS.check(inside.getDeclaredFields().length <= 20, inside + " has too many fields");
+            CHECKS.check(inside.getDeclaredFields().length <= MOST_FIELDS, inside + " has too many fields");
         }
         for (Method one : face.getDeclaredMethods()) {
             CHECKS.check(!Modifier.isPrivate(one.getModifiers()) || !names.contains(one.getName()),

@@ -1,9 +1,14 @@
 import java.io.IOException;
+import java.lang.reflect.Field;
+import java.lang.reflect.Modifier;
 import java.nio.file.Files;
 import java.nio.file.Path;
+import java.util.ArrayList;
 import java.util.List;
+import java.util.Set;
 import java.util.regex.Matcher;
 import java.util.regex.Pattern;
+import java.util.stream.Collectors;
 
 /** What of ../shared/LANGUAGE.md can be seen in the words of the program's file. It is run from the project's folder. */
 public final class LanguageTest {
@@ -13,6 +18,11 @@ public final class LanguageTest {
         "System\\.nanoTime", "System\\.currentTimeMillis", "Random", "Thread", "Object", "float", "\\w+Exact", "->", "::",
         "while \\(true\\)", "for \\(;"};
     private static final int MOST_LINES = 60;
+    /** What of the library the program uses (rule 4 leaves some more). */
+    private static final Set<String> LIBRARY = Set.of("Arrays.fill", "Integer.bitCount", "Math.floorDiv", "Math.max", "Math.min",
+            "System.arraycopy");
+    private static final Set<Class<?>> STATIC_TYPES = Set.of(int.class, long.class, boolean.class, char.class, String.class,
+            int[].class, long[].class, char[].class, byte[].class);
 
     private static final Checks CHECKS = new Checks("LanguageTest");
 
@@ -25,6 +35,8 @@ public final class LanguageTest {
             CHECKS.check(!matcher.find(), "the word " + word + " stands in it");
         }
         imports(code);
+        library(code);
+        staticFields();
         recursions(code);
         methodLengths(text.lines().toList());
         CHECKS.end();
@@ -39,6 +51,28 @@ public final class LanguageTest {
         while (matcher.find()) {
             CHECKS.check(matcher.group(1).matches("java\\.util\\.(Arrays|ArrayList|List|Iterator)"),
                     "it imports " + matcher.group(1));
+        }
+    }
+
+    /** Every name of a class is that of an own one, or stands before a function that rule 4 names. */
+    private static void library(String code) {
+        Set<String> own = Pattern.compile("class (\\w+)").matcher(code).results().map(one -> one.group(1)).collect(Collectors.toSet());
+        String rest = code.replaceAll("(?m)^import .*$", "");
+        Matcher matcher = Pattern.compile("(?<![\\w.])([A-Z]\\w*[a-z]\\w*)(\\.\\w+)?").matcher(rest);
+        while (matcher.find()) {
+            CHECKS.check(own.contains(matcher.group(1)) || LIBRARY.contains(matcher.group()), "it uses " + matcher.group());
+        }
+    }
+
+    /** Rule 5. */
+    private static void staticFields() {
+        List<Class<?>> all = new ArrayList<>(List.of(LeaningLines.class.getDeclaredClasses()));
+        all.add(LeaningLines.class);
+        for (Class<?> one : all) {
+            for (Field field : one.getDeclaredFields()) {
+                CHECKS.check(!Modifier.isStatic(field.getModifiers())
+                        || Modifier.isFinal(field.getModifiers()) && STATIC_TYPES.contains(field.getType()), field + " is static");
+            }
         }
     }
 

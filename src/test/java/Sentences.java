@@ -79,10 +79,10 @@ final class Sentences {
         }
     }
 
-    /** From the terms on, each word of the document must be quoted, but for what is not promised. */
+    /** Each word of the document must be quoted, but for the face (it has a test of its own), and what is not promised. */
     void allAreQuoted() {
         for (Map.Entry<String, Section> one : sections.entrySet()) {
-            if (one.getKey().equals("Terms") || one.getKey().startsWith("Promise ")) {
+            if (!one.getKey().equals("The public face") && !one.getKey().equals("Not promised")) {
                 String rest = notQuoted(one.getValue());
                 checks.check(rest.isEmpty(), one.getKey() + ": no test quotes \"" + rest + "\"");
             }
